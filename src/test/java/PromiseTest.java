@@ -6,8 +6,8 @@ public final class PromiseTest {
     private static final String UOE = Check.UOE;
     private static final String NSEE = Check.NSEE;
     private static final int ENOUGH = 14 * 128;
-    private static final double[] WRONG_SCALES = {0.0, -0.0, -1.0, 1000000.125, Double.NaN,
-        Double.POSITIVE_INFINITY, Double.NEGATIVE_INFINITY};
+    private static final double[] WRONG_SCALES = {0.0, -0.0, -1.0, -Double.MIN_VALUE, Math.nextUp(1000000.0),
+        1000000.125, Double.NaN, Double.POSITIVE_INFINITY, Double.NEGATIVE_INFINITY};
 
     public static void main(String[] args) {
         promise1();
@@ -222,6 +222,7 @@ public final class PromiseTest {
         promise5Conv();
         promise5Depthwise();
         promise5Shapes();
+        promise5NotSquare();
         promise5Scaling();
     }
 
@@ -342,6 +343,31 @@ public final class PromiseTest {
                 }
             }
         }
+    }
+
+    private static void promise5NotSquare() {
+        Check.part("promise 5, not square");
+        TensorForge x = new TensorForge();
+        int in = fedInput(x, 2, 3, 1, 1.0, 1, 2, 3, 4, 5, 7);
+        setWeights(x, 0, 1, 2, 3, 4, 5, 6, 7, 8, 9, 0);
+        // SAME, k 3, step 2: along 2 there is 1 place and p is 0, along 3 there are 2 and p is 1.
+        // 1 * 2 + 2 * 3 + 4 * 5 + 5 * 6 and 2 * 1 + 3 * 2 + 5 * 4 + 7 * 5.
+        Check.same("58 63", cells(x, x.windows(in, 11 + 12, false, 0, 1.0)));
+        Check.same("58 63", cells(x, x.windows(in, 11, true, 0, 1.0)));
+        Check.same("5 7", cells(x, x.pool(in, 11, false)));
+        // 12 / 4 and 17 / 4.
+        Check.same("3 4", cells(x, x.pool(in, 11, true)));
+        TensorForge y = new TensorForge();
+        int tall = fedInput(y, 3, 1, 2, 1.0, 1, 2, 3, 4, 5, 6);
+        setWeights(y, 0, 1, 2, 3, 4, 5, 6, 7, 8, 9, 1, 1, 1, 1, 1, 1, 1, 1, 1, 0, -1);
+        // SAME, k 3, step 1: only the middle column of the weights meets cells.
+        // Channel 0: 5 + 24, 2 + 15 + 40, 6 + 25; channel 1: 2 + 4, 2 + 4 + 6, 4 + 6, each with -16.
+        Check.same("29 -10 57 -4 31 -6", cells(y, y.windows(tall, 8, true, 0, 1.0)));
+        Check.same("3 4 5 6 5 6", cells(y, y.pool(tall, 8, false)));
+        Check.same("2 3 3 4 4 5", cells(y, y.pool(tall, 8, true)));
+        // The greatest code: d is 8 and the windows are 11.
+        Check.same("2 1 8", shape(y, y.windows(tall, 107, false, 0, 1.0)));
+        Check.same("1 2 1", shape(x, x.windows(in, 23, false, 0, 1.0)));
     }
 
     private static void promise5Scaling() {
@@ -586,6 +612,7 @@ public final class PromiseTest {
         Check.same("-43 -1 0 1 42", cells(x, x.rescale(in, 3.0)));
         // The ratio 29999 is good; -1 times it is cut.
         Check.same("-128 -128 127 127 127", cells(x, x.rescale(in, 1.0 / 29999.0)));
+        promise12Rounding();
         // A ratio that is just below 1.0 becomes 1.0 as a fixed-point number.
         Check.same("-128 -3 1 3 127", cells(x, x.rescale(in, 1.0000000000000002)));
         Check.due(AE, () -> x.rescale(in, 1.0 / 30000.0));
@@ -606,6 +633,18 @@ public final class PromiseTest {
         Check.due(IAE, () -> y.rescale(0, 0.0));
         Check.due(AE, () -> y.rescale(0, 0.00001));
         Check.due(ISE, () -> y.rescale(0, 1.0));
+    }
+
+    /** Ratios so near to 1.5 that only how they are made whole numbers decides what 1 becomes. */
+    private static void promise12Rounding() {
+        double bit = 1.0 / 4294967296.0;
+        double[][] dues = {{0.0, 2}, {1.5, 2}, {2.0, 2}, {2.1, 1}, {2.5, 1}, {4.0, 1}};
+        for (double[] due : dues) {
+            TensorForge x = new TensorForge();
+            int in = fedInput(x, 1, 1, 2, 1.5 - due[0] * bit, 1, -1);
+            int value = (int) due[1];
+            Check.same(value + " " + -value, cells(x, x.rescale(in, 1.0)));
+        }
     }
 
     private static void promise13() {
@@ -682,6 +721,23 @@ public final class PromiseTest {
         Check.due(3, y::compile);
         standsFor(y, 0, 1, 2, 3, 4, 5, 6, 5, 8, 9, 10, 10, 12, 2);
         promise14SmallerWeights();
+        promise14SmallerShapes();
+    }
+
+    private static void promise14SmallerShapes() {
+        TensorForge x = new TensorForge();
+        x.input(1, 2, 4, 1.0);
+        x.reshape(0, 2, 1, 4);
+        x.reshape(0, 2, 2, 2);
+        x.reshape(0, 1, 4, 2);
+        x.reshape(0, 1, 2, 4);
+        x.reshape(1, 2, 1, 4);
+        x.reshape(4, 2, 1, 4);
+        x.clamp(1, 0, 1);
+        Check.same("2 1 4", shape(x, 7));
+        x.output(7);
+        x.compile();
+        standsFor(x, 0, 1, 2, 3, 0, 1, 1, 7);
     }
 
     private static void promise14SmallerWeights() {
