@@ -1004,7 +1004,7 @@ public final class PromiseTest {
     }
 
     private static void promise17Cleared() {
-        // Cells that no node of the plan lies in are 0 again in the next run.
+        // Nothing of an earlier, larger run is left below the peak of a later one.
         TensorForge x = new TensorForge();
         for (int i = 0; i < 3; i++) {
             fedInput(x, 1, 1, 8, 1.0, 1, 1, 1, 1, 1, 1, 1, 1);
