@@ -47,6 +47,17 @@ final class Check {
         }
     }
 
+    /** Runs a test to its end: what reaches it against its will is wrong, but the other tests still run. */
+    static void ends(Runnable test) {
+        try {
+            test.run();
+        } catch (RuntimeException | StackOverflowError e) {
+            checks++;
+            wrong++;
+            System.out.println(part + ": ended by " + e + " at " + e.getStackTrace()[0]);
+        }
+    }
+
     static void holds(String what, boolean holds) {
         same(what + ": true", what + ": " + holds);
     }

@@ -1,14 +1,5 @@
 /** Every promise of the document in turn, with answers worked out by hand. */
-public final class PromiseTest {
-    private static final String IAE = Check.IAE;
-    private static final String AE = Check.AE;
-    private static final String ISE = Check.ISE;
-    private static final String UOE = Check.UOE;
-    private static final String NSEE = Check.NSEE;
-    private static final int ENOUGH = 14 * 128;
-    private static final double[] WRONG_SCALES = {0.0, -0.0, -1.0, -Double.MIN_VALUE, Math.nextUp(1000000.0),
-        1000000.125, Double.NaN, Double.POSITIVE_INFINITY, Double.NEGATIVE_INFINITY};
-
+public final class PromiseTest extends Models {
     public static void main(String[] args) {
         promise1();
         promise2();
@@ -33,57 +24,6 @@ public final class PromiseTest {
         promise19();
         promise20();
         Check.end();
-    }
-
-    /** Up to eight cells as the bytes of a number, the first one highest. */
-    private static long bytes(int... cells) {
-        long all = 0;
-        for (int i = 0; i < 8; i++) {
-            all = all << 8 | (i < cells.length ? cells[i] & 0xff : 0);
-        }
-        return all;
-    }
-
-    private static int fedInput(TensorForge x, int h, int w, int c, double scale, int... cells) {
-        int node = x.input(h, w, c, scale);
-        for (int from = 0; from < cells.length; from += 8) {
-            x.feed(node, from, bytes(java.util.Arrays.copyOfRange(cells, from, from + 8)));
-        }
-        return node;
-    }
-
-    private static void setWeights(TensorForge x, int offset, int... cells) {
-        for (int from = 0; from < cells.length; from += 8) {
-            x.weights(offset + from, bytes(java.util.Arrays.copyOfRange(cells, from, from + 8)));
-        }
-    }
-
-    /** The cells of a node after a run with it as the output, as a text. */
-    private static String cells(TensorForge x, int node) {
-        int number = x.output(node);
-        x.compile();
-        int sum = x.run(ENOUGH);
-        StringBuilder text = new StringBuilder();
-        int added = 0;
-        for (int i = 0; i < number; i++) {
-            int cell = x.arena(x.about(node, 7) + i);
-            added += cell;
-            text.append(i == 0 ? "" : " ").append(cell);
-        }
-        Check.holds("run answers the sum of " + text, sum == added);
-        return text.toString();
-    }
-
-    private static String shape(TensorForge x, int node) {
-        return x.about(node, 1) + " " + x.about(node, 2) + " " + x.about(node, 3);
-    }
-
-    private static TensorForge full() {
-        TensorForge x = new TensorForge();
-        for (int i = 0; i < 14; i++) {
-            x.input(2, 2, 2, 1.0);
-        }
-        return x;
     }
 
     private static void promise1() {
@@ -672,13 +612,6 @@ public final class PromiseTest {
         Check.due(0, () -> x.about(1, 5));
     }
 
-    private static void standsFor(TensorForge x, int... due) {
-        for (int node = 0; node < due.length; node++) {
-            int n = node;
-            Check.due(due[node], () -> x.about(n, 4));
-        }
-    }
-
     private static void promise14Smaller() {
         Check.part("promise 14, smaller");
         TensorForge x = new TensorForge();
@@ -762,13 +695,6 @@ public final class PromiseTest {
         standsFor(x, 0, 1, 2, 3, 4, 5, 6, 1, 8, 9, 10, 8, 12, 13);
     }
 
-    private static void states(TensorForge x, int... due) {
-        for (int node = 0; node < due.length; node++) {
-            int n = node;
-            Check.due(due[node], () -> x.about(n, 5));
-        }
-    }
-
     private static void promise14Fused() {
         Check.part("promise 14, fused");
         TensorForge x = new TensorForge();
@@ -840,11 +766,6 @@ public final class PromiseTest {
         y.rescale(1, 0.5);
         y.output(4);
         Check.due(3, y::compile);
-    }
-
-    private static void plan(TensorForge x, int node, int step, int place) {
-        Check.due(step, () -> x.about(node, 6));
-        Check.due(place, () -> x.about(node, 7));
     }
 
     private static void promise14Plan() {
