@@ -10,25 +10,27 @@ import java.util.TreeSet;
 /** The class has the face of the document and nothing beside it. */
 public final class FaceTest {
     private static final List<String> FACE = List.of(
-            "int weights(int, long)",
-            "void weightScale(double)",
-            "int input(int, int, int, double)",
-            "int windows(int, int, boolean, int, double)",
-            "int dense(int, int, int, double)",
-            "int add(int, int, double)",
-            "int concat(int, int)",
-            "int reshape(int, int, int, int)",
-            "int pool(int, int, boolean)",
-            "int clamp(int, int, int)",
-            "int rescale(int, double)",
-            "int output(int)",
-            "int compile()",
-            "int feed(int, int, long)",
-            "int run(int)",
-            "int arena(int)",
-            "double result(int)",
-            "int about(int, int)",
-            "int peak()");
+            "int weights(int, long) throws IllegalArgumentException",
+            "void weightScale(double) throws IllegalArgumentException",
+            "int input(int, int, int, double) throws IllegalArgumentException, IllegalStateException",
+            "int windows(int, int, boolean, int, double)"
+                    + " throws IllegalArgumentException, ArithmeticException, IllegalStateException",
+            "int dense(int, int, int, double)"
+                    + " throws IllegalArgumentException, ArithmeticException, IllegalStateException",
+            "int add(int, int, double) throws IllegalArgumentException, ArithmeticException, IllegalStateException",
+            "int concat(int, int) throws IllegalArgumentException, IllegalStateException",
+            "int reshape(int, int, int, int) throws IllegalArgumentException, IllegalStateException",
+            "int pool(int, int, boolean) throws IllegalArgumentException, IllegalStateException",
+            "int clamp(int, int, int) throws IllegalArgumentException, IllegalStateException",
+            "int rescale(int, double) throws IllegalArgumentException, ArithmeticException, IllegalStateException",
+            "int output(int) throws IllegalArgumentException",
+            "int compile() throws IllegalStateException",
+            "int feed(int, int, long) throws IllegalArgumentException",
+            "int run(int) throws IllegalArgumentException, IllegalStateException, UnsupportedOperationException",
+            "int arena(int) throws NoSuchElementException",
+            "double result(int) throws NoSuchElementException",
+            "int about(int, int) throws IllegalArgumentException, IllegalStateException, NoSuchElementException",
+            "int peak() throws IllegalStateException");
 
     public static void main(String[] args) {
         Check.part("face");
@@ -76,6 +78,10 @@ public final class FaceTest {
         for (Class<?> type : method.getParameterTypes()) {
             text.append(text.length() == 0 ? "" : ", ").append(type.getSimpleName());
         }
-        return method.getReturnType().getSimpleName() + " " + method.getName() + "(" + text + ")";
+        StringBuilder thrown = new StringBuilder();
+        for (Class<?> type : method.getExceptionTypes()) {
+            thrown.append(thrown.length() == 0 ? " throws " : ", ").append(type.getSimpleName());
+        }
+        return method.getReturnType().getSimpleName() + " " + method.getName() + "(" + text + ")" + thrown;
     }
 }
