@@ -1,13 +1,16 @@
 import java.io.IOException;
 import java.lang.reflect.Executable;
 import java.lang.reflect.Field;
+import java.lang.reflect.Method;
 import java.lang.reflect.Modifier;
 import java.nio.charset.StandardCharsets;
 import java.nio.file.Files;
 import java.nio.file.Path;
 import java.util.ArrayList;
 import java.util.List;
+import java.util.Map;
 import java.util.Set;
+import java.util.TreeMap;
 import java.util.regex.Matcher;
 import java.util.regex.Pattern;
 
@@ -20,6 +23,7 @@ public final class LanguageTest {
             "NoSuchElementException", "RuntimeException");
     private static final Set<Class<?>> CONSTANTS = Set.of(int.class, long.class, boolean.class, char.class,
             String.class, int[].class, long[].class, char[].class, byte[].class);
+    private static final int MOST_DEPTH = 8;
     private static final List<String> BANNED = List.of("->", "::", "\\bfinally\\b", "\\bsynchronized\\b",
             "\\bassert\\b", "\\btry\\s*\\(", "\\bThread\\b", "\\bRandom\\b", "Exact\\(", "\\bObject\\b", "\\bprotected\\b",
             "\\bStrictMath\\b", "\\bnative\\b", "\\bvolatile\\b", "\\bgetMessage\\b", "\\btoString\\b", "\\bhashCode\\b",
@@ -38,6 +42,7 @@ public final class LanguageTest {
         }
         checkImportsAndThrows(code);
         checkMethodLengths(code);
+        checkCallDepth(code);
         List<Class<?>> classes = new ArrayList<>(List.of(TensorForge.class.getDeclaredClasses()));
         classes.add(TensorForge.class);
         Check.holds("rule 11: some twelve classes", classes.size() <= 12);
@@ -74,6 +79,42 @@ public final class LanguageTest {
                 begin = -1;
             }
         }
+    }
+
+    private static void checkCallDepth(String code) {
+        Map<String, String> bodies = new TreeMap<>();
+        // The name must follow the indent at once, or a body would be read to the end of its class.
+        Matcher method = Pattern.compile("(?ms)^( {4}| {8})(?=\\w)[\\w\\[\\] ]*?(\\w+)\\([^;{]*\\{(.*?)^\\1\\}").matcher(code);
+        while (method.find()) {
+            // Calls are told apart by their names alone, so no two methods may share one.
+            Check.same("null", String.valueOf(bodies.put(method.group(2), method.group(3))));
+        }
+        for (Method call : TensorForge.class.getDeclaredMethods()) {
+            Check.holds("a body is found of " + call.getName(), bodies.containsKey(call.getName()));
+        }
+        Map<String, Integer> depths = new TreeMap<>();
+        for (String name : bodies.keySet()) {
+            Check.holds("rule 11: eight calls deep from " + name, depth(name, bodies, depths) <= MOST_DEPTH);
+        }
+    }
+
+    /** How many calls stand open at once under a call, itself and the library's counted too. */
+    private static int depth(String name, Map<String, String> bodies, Map<String, Integer> depths) {
+        if (!bodies.containsKey(name)) {
+            return 1;
+        }
+        if (depths.containsKey(name)) {
+            return depths.get(name);
+        }
+        // What is met again while it is still open calls itself: too deep, and not looked at once more.
+        depths.put(name, MOST_DEPTH + 1);
+        int below = 0;
+        Matcher call = Pattern.compile("\\b(?!(?:if|for|while|switch|return)\\b)(\\w+)\\(").matcher(bodies.get(name));
+        while (call.find()) {
+            below = Math.max(below, depth(call.group(1), bodies, depths));
+        }
+        depths.put(name, below + 1);
+        return below + 1;
     }
 
     private static void checkClass(Class<?> one) {
