@@ -24,6 +24,10 @@ public final class LanguageTest {
     private static final Set<Class<?>> CONSTANTS = Set.of(int.class, long.class, boolean.class, char.class,
             String.class, int[].class, long[].class, char[].class, byte[].class);
     private static final int MOST_DEPTH = 8;
+    /** A word must follow the indent at once, or the body would be read to the end of its class. */
+    private static final Pattern METHOD = Pattern.compile(
+            "(?ms)^( {4}| {8})(?=\\w)[\\w\\[\\] ]*?(\\w+)\\([^;{]*\\{(.*?)^\\1\\}");
+    private static final Pattern CALL = Pattern.compile("\\b(?!(?:if|for|while|switch|return)\\b)(\\w+)\\(");
     private static final List<String> BANNED = List.of("->", "::", "\\bfinally\\b", "\\bsynchronized\\b",
             "\\bassert\\b", "\\btry\\s*\\(", "\\bThread\\b", "\\bRandom\\b", "Exact\\(", "\\bObject\\b", "\\bprotected\\b",
             "\\bStrictMath\\b", "\\bnative\\b", "\\bvolatile\\b", "\\bgetMessage\\b", "\\btoString\\b", "\\bhashCode\\b",
@@ -83,8 +87,7 @@ public final class LanguageTest {
 
     private static void checkCallDepth(String code) {
         Map<String, String> bodies = new TreeMap<>();
-        // The name must follow the indent at once, or a body would be read to the end of its class.
-        Matcher method = Pattern.compile("(?ms)^( {4}| {8})(?=\\w)[\\w\\[\\] ]*?(\\w+)\\([^;{]*\\{(.*?)^\\1\\}").matcher(code);
+        Matcher method = METHOD.matcher(code);
         while (method.find()) {
             // Calls are told apart by their names alone, so no two methods may share one.
             Check.same("null", String.valueOf(bodies.put(method.group(2), method.group(3))));
@@ -109,7 +112,7 @@ public final class LanguageTest {
         // What is met again while it is still open calls itself: too deep, and not looked at once more.
         depths.put(name, MOST_DEPTH + 1);
         int below = 0;
-        Matcher call = Pattern.compile("\\b(?!(?:if|for|while|switch|return)\\b)(\\w+)\\(").matcher(bodies.get(name));
+        Matcher call = CALL.matcher(bodies.get(name));
         while (call.find()) {
             below = Math.max(below, depth(call.group(1), bodies, depths));
         }
